@@ -210,8 +210,8 @@ public final class PageStore {
     }
 
     private void requireSpan(int start, int n) {
-        // start + n could wrap, PAGE - n can't once n is known to be 0 to PAGE.
-        if (n < 0 || n > PAGE || start < 0 || start > PAGE - n) {
+        // start + n could wrap, PAGE - n can't where n is not below 0.
+        if (n < 0 || start < 0 || start > PAGE - n) {
             throw new IndexOutOfBoundsException("no such bytes");
         }
     }

@@ -1,9 +1,7 @@
 /** Power fails at every byte of every write, and what is lasting is there behind it. */
 public final class PowerTest {
-    private static final int OLD = 4;
-    private static final int NEW = 2;
-    /** More writes than the commit below can do, so that "if there are fewer" is met too. */
-    private static final int WRITES = OLD + NEW + 3;
+    /** More writes than a commit of the sample does, so that "if there are fewer" is met too. */
+    private static final int WRITES = Sample.OLD + Sample.NEW + 3;
     private static final int[] CUTS = {0, 1, 3, 4, 5, 128, 255, 256, 257, 259, 260, 261, 300};
 
     private static final Check CHECK = new Check();
@@ -15,36 +13,6 @@ public final class PowerTest {
         cutWhatOnlyAdds();
         nothingChanged();
         CHECK.end();
-    }
-
-    /** Four lasting pages, each byte of them told by its place. */
-    private static PageStore filled() {
-        PageStore x = new PageStore();
-        x.begin();
-        for (int p = 0; p < OLD; p++) {
-            x.add();
-            x.put(p, 0, p + 1);
-            for (int n = 1; n < PageStore.PAGE; n *= 2) {
-                x.move(p, 0, p, n, n);
-                x.put(p, n, n + p);
-            }
-        }
-        x.commit();
-        return x;
-    }
-
-    /** Changes three pages of the four, over their whole length, and adds two. */
-    private static void change(PageStore x) {
-        x.begin();
-        x.move(1, 0, 0, 128, 128);
-        x.mark();
-        x.move(2, 1, 1, 0, 255);
-        x.put(3, 255, 77);
-        x.put(3, 0, 78);
-        for (int i = 0; i < NEW; i++) {
-            int p = x.add();
-            x.move(2, 0, p, 0, PageStore.PAGE);
-        }
     }
 
     private static long[] sums(PageStore x) {
@@ -67,17 +35,17 @@ public final class PowerTest {
     }
 
     private static void cutCommitAtEveryByte() {
-        long[] due = sums(filled());
+        long[] due = sums(Sample.filled());
         for (int when = 0; when <= 1; when++) {
             for (int k = 0; k < WRITES; k++) {
                 for (int b = 0; b <= 300; b++) {
                     String what = "power(" + when + ", " + k + ", " + b + ")";
-                    PageStore x = filled();
-                    change(x);
+                    PageStore x = Sample.filled();
+                    Sample.change(x);
                     x.power(when, k, b);
                     fails(what, x::commit);
                     CHECK.is(what + ": told(3)", x.told(3), 1);
-                    CHECK.is(what + ": reopen()", x.reopen(), OLD);
+                    CHECK.is(what + ": reopen()", x.reopen(), Sample.OLD);
                     same(what, x, due);
                 }
             }
@@ -85,18 +53,18 @@ public final class PowerTest {
     }
 
     private static void cutUndoAtEveryByte() {
-        long[] due = sums(filled());
+        long[] due = sums(Sample.filled());
         for (int k = 0; k < WRITES; k++) {
             for (int b = 0; b <= 300; b++) {
                 String what = "power(3, " + k + ", " + b + ")";
-                PageStore x = filled();
-                change(x);
-                x.power(1, OLD, 100);
+                PageStore x = Sample.filled();
+                Sample.change(x);
+                x.power(1, Sample.OLD, 100);
                 fails(what + ": commit()", x::commit);
                 x.power(3, k, b);
                 fails(what + ": reopen()", x::reopen);
                 CHECK.is(what + ": told(0)", x.told(0), 0);
-                CHECK.is(what + ": reopen() again", x.reopen(), OLD);
+                CHECK.is(what + ": reopen() again", x.reopen(), Sample.OLD);
                 same(what, x, due);
             }
         }
@@ -104,16 +72,16 @@ public final class PowerTest {
 
     /** One object through all cuts, each behind the one before, and a commit that lasts at the end. */
     private static void cutAgainAndAgain() {
-        long[] before = sums(filled());
-        PageStore changed = filled();
-        change(changed);
+        long[] before = sums(Sample.filled());
+        PageStore changed = Sample.filled();
+        Sample.change(changed);
         changed.commit();
         long[] behind = sums(changed);
         for (int b : CUTS) {
-            PageStore x = filled();
+            PageStore x = Sample.filled();
             for (int k = 0; k < WRITES; k++) {
                 String what = "again, " + k + ", " + b;
-                change(x);
+                Sample.change(x);
                 x.power(k % 2, k, b);
                 fails(what + ": commit()", x::commit);
                 x.power(3, k, b);
@@ -123,7 +91,7 @@ public final class PowerTest {
                 x.reopen();
                 same(what, x, before);
             }
-            change(x);
+            Sample.change(x);
             x.commit();
             same("lasting", x, behind);
             x.reopen();
@@ -161,7 +129,7 @@ public final class PowerTest {
         for (int when = 0; when <= 2; when++) {
             for (int k : new int[] {0, 1, 50, 1000}) {
                 String what = "nothing changed, power(" + when + ", " + k + ", 0)";
-                PageStore x = filled();
+                PageStore x = Sample.filled();
                 long[] due = sums(x);
                 x.power(when, k, 0);
                 x.begin();

@@ -1,4 +1,6 @@
+import java.lang.reflect.InvocationTargetException;
 import java.util.ArrayList;
+import java.util.Arrays;
 import java.util.List;
 import java.util.Random;
 
@@ -6,6 +8,7 @@ import java.util.Random;
 public final class RandomRunsTest {
     private static final int RUNS = 3000;
     private static final int CALLS = 512;
+    private static final int LOOKS = 16;
 
     private static final Check CHECK = new Check();
 
@@ -21,27 +24,44 @@ public final class RandomRunsTest {
         PageStore x = new PageStore();
         Model model = new Model();
         int calls = 0;
-        // 16 are left for looking at the end.
-        while (calls < CALLS - 16) {
-            int kind = random.nextInt(100);
-            int[] a = {random.nextInt(12) - 1, near(random), random.nextInt(12) - 1, near(random), near(random)};
-            String call = "seed " + seed + ", call " + calls + ": ";
-            CHECK.same(call + kind + " " + a[0] + " " + a[1] + " " + a[2] + " " + a[3] + " " + a[4],
-                Check.told(() -> ofStore(x, kind, a)), Check.told(() -> ofModel(model, kind, a)));
+        // Some are left for looking at the end.
+        while (calls < CALLS - LOOKS) {
+            both(seed, x, model, pick(random));
             calls++;
         }
-        look(seed, x, model);
+        for (int what = 0; what < 4; what++) {
+            both(seed, x, model, new Call("told", what));
+        }
+        for (int p = 0; p < LOOKS - 4; p++) {
+            both(seed, x, model, new Call("sum", p));
+        }
     }
 
-    private static void look(int seed, PageStore x, Model model) {
-        for (int what = 0; what < 4; what++) {
-            int w = what;
-            CHECK.is("seed " + seed + ": told(" + w + ")", x.told(w), model.told(w));
-        }
-        for (int p = 0; p < 11; p++) {
-            int q = p;
-            CHECK.same("seed " + seed + ": sum(" + p + ")", Check.told(() -> x.sum(q)), Check.told(() -> model.sum(q)));
-        }
+    private static void both(int seed, PageStore x, Model model, Call call) {
+        CHECK.same("seed " + seed + ": " + call, call.of(x), call.of(model));
+    }
+
+    /** A call that is mostly fine where a transaction is open, and sometimes wrong. */
+    private static Call pick(Random random) {
+        int p = random.nextInt(12) - 1;
+        int q = random.nextInt(12) - 1;
+        int m = random.nextInt(7);
+        int kind = random.nextInt(100);
+        if (kind < 6) return new Call("add");
+        if (kind < 30) return new Call("put", p, near(random), random.nextInt(1000) - 500);
+        if (kind < 44) return new Call("move", p, near(random), q, near(random), near(random));
+        if (kind < 50) return new Call("get", p, near(random));
+        if (kind < 54) return new Call("sum", p);
+        if (kind < 64) return new Call("begin");
+        if (kind < 70) return new Call("commit");
+        if (kind < 72) return new Call("rollback");
+        if (kind < 80) return new Call("mark");
+        if (kind < 85) return new Call("back", m);
+        if (kind < 90) return new Call("keep", m);
+        if (kind < 94) return new Call("power", random.nextInt(6), q, near(random));
+        if (kind < 97) return new Call("reopen");
+        if (kind < 99) return new Call("told", random.nextInt(5));
+        return new Call("pages");
     }
 
     /** Mostly within a page, sometimes at its edges or beyond them. */
@@ -58,47 +78,34 @@ public final class RandomRunsTest {
         }
     }
 
-    private static int some(int v, int below) {
-        return Math.floorMod(v, below);
-    }
+    /** A call by its name, so that one choice is done on both the class and the model. */
+    private static final class Call {
+        private final String name;
+        private final Object[] args;
+        private final Class<?>[] types;
 
-    private static long ofStore(PageStore x, int kind, int[] a) {
-        if (kind < 6) return x.add();
-        if (kind < 30) return x.put(a[0], a[1], a[3] * 3);
-        if (kind < 44) return none(() -> x.move(a[0], a[1], a[2], a[3], a[4]));
-        if (kind < 50) return x.get(a[0], a[1]);
-        if (kind < 54) return x.sum(a[0]);
-        if (kind < 64) return none(x::begin);
-        if (kind < 70) return none(x::commit);
-        if (kind < 72) return none(x::rollback);
-        if (kind < 80) return x.mark();
-        if (kind < 85) return none(() -> x.back(some(a[0], 7)));
-        if (kind < 90) return none(() -> x.keep(some(a[0], 7)));
-        if (kind < 94) return none(() -> x.power(some(a[0], 6), a[2], a[1]));
-        if (kind < 97) return x.reopen();
-        return kind < 99 ? x.told(some(a[0], 5)) : x.pages();
-    }
+        Call(String name, Integer... args) {
+            this.name = name;
+            this.args = args;
+            types = new Class<?>[args.length];
+            Arrays.fill(types, int.class);
+        }
 
-    private static long ofModel(Model x, int kind, int[] a) {
-        if (kind < 6) return x.add();
-        if (kind < 30) return x.put(a[0], a[1], a[3] * 3);
-        if (kind < 44) return none(() -> x.move(a[0], a[1], a[2], a[3], a[4]));
-        if (kind < 50) return x.get(a[0], a[1]);
-        if (kind < 54) return x.sum(a[0]);
-        if (kind < 64) return none(x::begin);
-        if (kind < 70) return none(x::commit);
-        if (kind < 72) return none(x::rollback);
-        if (kind < 80) return x.mark();
-        if (kind < 85) return none(() -> x.back(some(a[0], 7)));
-        if (kind < 90) return none(() -> x.keep(some(a[0], 7)));
-        if (kind < 94) return none(() -> x.power(some(a[0], 6), a[2], a[1]));
-        if (kind < 97) return x.reopen();
-        return kind < 99 ? x.told(some(a[0], 5)) : x.pages();
-    }
+        String of(Object target) {
+            try {
+                Object answer = target.getClass().getDeclaredMethod(name, types).invoke(target, args);
+                return String.valueOf(answer);
+            } catch (InvocationTargetException e) {
+                return "throws." + e.getCause().getClass().getSimpleName();
+            } catch (ReflectiveOperationException e) {
+                throw new AssertionError(e);
+            }
+        }
 
-    private static long none(Check.Act act) {
-        act.run();
-        return 0;
+        @Override
+        public String toString() {
+            return name + Arrays.toString(args);
+        }
     }
 
     /** The document's words with copies of everything in place of files and layers. */
