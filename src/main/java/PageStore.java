@@ -314,7 +314,7 @@ public final class PageStore {
         for (int i = 0; i < records && powered; i++) {
             int at = NUMBER + i * RECORD;
             int p = journalNumber(at);
-            if (p >= 0 && p < before) {
+            if (p >= 0 && p < MOST) {
                 journal.read(at + NUMBER, record, PAGE);
                 powered = write(file, record, p * PAGE, PAGE, IN_REOPEN);
             }

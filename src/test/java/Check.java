@@ -10,8 +10,24 @@ final class Check {
         void run();
     }
 
+    private String sentence = "";
     private int looked = 0;
     private int wrong = 0;
+
+    /** The test of one sentence of the document; its words go before what it finds to be wrong. */
+    void sentence(String words, Act test) {
+        sentence = words + " | ";
+        int before = looked;
+        try {
+            test.run();
+        } catch (RuntimeException e) {
+            same("the test", "throws." + e.getClass().getSimpleName(), "0");
+        }
+        if (looked == before) {
+            same("the test", "no answer looked at", "some");
+        }
+        sentence = "";
+    }
 
     void is(String what, long got, long due) {
         same(what, Long.toString(got), Long.toString(due));
@@ -21,7 +37,7 @@ final class Check {
         looked++;
         if (!got.equals(due)) {
             wrong++;
-            System.out.println(what + " answered " + got + ", due is " + due);
+            System.out.println(sentence + what + " answered " + got + ", due is " + due);
         }
     }
 
@@ -29,19 +45,35 @@ final class Check {
         same(what, told(act), "0");
     }
 
-    void throwsIt(String what, Class<? extends RuntimeException> due, Act act) {
+    private void throwsIt(String what, Class<? extends RuntimeException> due, Act act) {
         same(what, told(act), "throws." + due.getSimpleName());
     }
 
+    void state(String what, Act act) {
+        throwsIt(what, IllegalStateException.class, act);
+    }
+
+    void index(String what, Act act) {
+        throwsIt(what, IndexOutOfBoundsException.class, act);
+    }
+
+    void argument(String what, Act act) {
+        throwsIt(what, IllegalArgumentException.class, act);
+    }
+
+    void power(String what, Act act) {
+        throwsIt(what, ArithmeticException.class, act);
+    }
+
     static String told(Act act) {
-        return told(() -> {
+        return answer(() -> {
             act.run();
             return 0;
         });
     }
 
     /** The answer as a text, or the name of what is thrown behind "throws.". */
-    static String told(Call call) {
+    static String answer(Call call) {
         try {
             return Long.toString(call.answer());
         } catch (RuntimeException e) {

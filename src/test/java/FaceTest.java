@@ -31,6 +31,7 @@ public final class FaceTest {
         check.same("its constructors", constructors(), "[public PageStore()]");
         check.same("its methods", methods().toString(), new TreeSet<>(Set.of(METHODS)).toString());
         check.same("its constants", constants().toString(), "[public static final int MOST, public static final int PAGE]");
+        check.same("private methods with a public one's name", hiddenNames().toString(), "[]");
         check.is("PAGE", PageStore.PAGE, 256);
         check.is("MOST", PageStore.MOST, 768);
         check.end();
@@ -62,6 +63,16 @@ public final class FaceTest {
                 seen.add(f.toString().replace("PageStore.", ""));
             }
         }
+        return seen;
+    }
+
+    private static Set<String> hiddenNames() {
+        Set<String> seen = new TreeSet<>();
+        Set<String> shown = new TreeSet<>();
+        for (Method m : PageStore.class.getDeclaredMethods()) {
+            (Modifier.isPrivate(m.getModifiers()) ? seen : shown).add(m.getName());
+        }
+        seen.retainAll(shown);
         return seen;
     }
 }

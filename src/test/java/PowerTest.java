@@ -7,11 +7,13 @@ public final class PowerTest {
     private static final Check CHECK = new Check();
 
     public static void main(String[] args) {
-        cutCommitAtEveryByte();
-        cutUndoAtEveryByte();
-        cutAgainAndAgain();
-        cutWhatOnlyAdds();
-        nothingChanged();
+        CHECK.sentence("power may fail at any byte of any write", PowerTest::cutCommitAtEveryByte);
+        CHECK.sentence("also while what was begun is undone", PowerTest::cutUndoAtEveryByte);
+        CHECK.sentence("again and again", PowerTest::cutAgainAndAgain);
+        CHECK.sentence("also if pages are only added", PowerTest::cutWhatOnlyAdds);
+        CHECK.sentence("14: or nothing changed", PowerTest::nothingChanged);
+        CHECK.sentence("at most 512 calls, all of them to add", PowerTest::addAllAlong);
+        CHECK.sentence("at most 512 calls, half of them to change", PowerTest::changeAllPages);
         CHECK.end();
     }
 
@@ -30,10 +32,6 @@ public final class PowerTest {
         }
     }
 
-    private static void fails(String what, Check.Act act) {
-        CHECK.throwsIt(what, ArithmeticException.class, act);
-    }
-
     private static void cutCommitAtEveryByte() {
         long[] due = sums(Sample.filled());
         for (int when = 0; when <= 1; when++) {
@@ -43,7 +41,7 @@ public final class PowerTest {
                     PageStore x = Sample.filled();
                     Sample.change(x);
                     x.power(when, k, b);
-                    fails(what, x::commit);
+                    CHECK.power(what, x::commit);
                     CHECK.is(what + ": told(3)", x.told(3), 1);
                     CHECK.is(what + ": reopen()", x.reopen(), Sample.OLD);
                     same(what, x, due);
@@ -60,9 +58,9 @@ public final class PowerTest {
                 PageStore x = Sample.filled();
                 Sample.change(x);
                 x.power(1, Sample.OLD, 100);
-                fails(what + ": commit()", x::commit);
+                CHECK.power(what + ": commit()", x::commit);
                 x.power(3, k, b);
-                fails(what + ": reopen()", x::reopen);
+                CHECK.power(what + ": reopen()", x::reopen);
                 CHECK.is(what + ": told(0)", x.told(0), 0);
                 CHECK.is(what + ": reopen() again", x.reopen(), Sample.OLD);
                 same(what, x, due);
@@ -83,11 +81,11 @@ public final class PowerTest {
                 String what = "again, " + k + ", " + b;
                 Sample.change(x);
                 x.power(k % 2, k, b);
-                fails(what + ": commit()", x::commit);
+                CHECK.power(what + ": commit()", x::commit);
                 x.power(3, k, b);
-                fails(what + ": reopen()", x::reopen);
+                CHECK.power(what + ": reopen()", x::reopen);
                 x.power(3, WRITES - k, b);
-                fails(what + ": reopen() again", x::reopen);
+                CHECK.power(what + ": reopen() again", x::reopen);
                 x.reopen();
                 same(what, x, before);
             }
@@ -113,7 +111,7 @@ public final class PowerTest {
                     x.add();
                     x.put(1, 255, 255);
                     x.power(when, k, b);
-                    fails(what, x::commit);
+                    CHECK.power(what, x::commit);
                     CHECK.is(what + ": reopen()", x.reopen(), due);
                     x.begin();
                     CHECK.is(what + ": add()", x.add(), due);
@@ -133,10 +131,44 @@ public final class PowerTest {
                 long[] due = sums(x);
                 x.power(when, k, 0);
                 x.begin();
-                fails(what, x::commit);
+                CHECK.power(what, x::commit);
                 CHECK.is(what + ": told(3)", x.told(3), when == 2 && k > 0 ? 2 : 1);
                 x.reopen();
                 same(what, x, due);
+            }
+        }
+    }
+
+    private static void addAllAlong() {
+        int pages = 507;
+        for (int k : new int[] {0, 1, 255, 256, pages - 1, pages, 1000}) {
+            for (int when = 0; when <= 2; when++) {
+                String what = "adds all along, power(" + when + ", " + k + ", 100)";
+                PageStore x = Stores.opened(pages);
+                x.power(when, k, 100);
+                CHECK.power(what, x::commit);
+                CHECK.is(what + ": reopen()", x.reopen(), when == 2 && k > 0 ? pages : 0);
+            }
+        }
+    }
+
+    private static void changeAllPages() {
+        int pages = 200;
+        String due = Stores.pages(Stores.lasting(pages));
+        for (int k : new int[] {0, 1, 100, pages - 1, pages, pages + 1, 1000}) {
+            for (int when = 0; when <= 2; when++) {
+                String what = "changes all pages, power(" + when + ", " + k + ", 100)";
+                PageStore x = Stores.begun(pages);
+                for (int p = 0; p < pages; p++) {
+                    x.put(p, p, 1 + p);
+                }
+                String done = Stores.pages(x);
+                x.power(when, k, 100);
+                CHECK.power(what, x::commit);
+                x.power(3, k, 100);
+                CHECK.power(what + ": reopen()", x::reopen);
+                x.reopen();
+                CHECK.same(what + ": pages", Stores.pages(x), when == 2 && k > 0 ? done : due);
             }
         }
     }
