@@ -346,7 +346,7 @@ public final class PageStore {
         return v;
     }
 
-    /** One object a block, since a row of rows is no type of this program. */
+    /** An object round the bytes, since one that is not yet made is told by null, as a bare row is not to be. */
     private static final class Block {
         private final byte[] bytes = new byte[PAGE];
     }

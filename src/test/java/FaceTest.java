@@ -32,6 +32,7 @@ public final class FaceTest {
         check.same("its methods", methods().toString(), new TreeSet<>(Set.of(METHODS)).toString());
         check.same("its constants", constants().toString(), "[public static final int MOST, public static final int PAGE]");
         check.same("private methods with a public one's name", hiddenNames().toString(), "[]");
+        check.same("classes inside that are seen or need an object", innerClasses().toString(), "[]");
         check.is("PAGE", PageStore.PAGE, 256);
         check.is("MOST", PageStore.MOST, 768);
         check.end();
@@ -73,6 +74,17 @@ public final class FaceTest {
             (Modifier.isPrivate(m.getModifiers()) ? seen : shown).add(m.getName());
         }
         seen.retainAll(shown);
+        return seen;
+    }
+
+    private static Set<String> innerClasses() {
+        Set<String> seen = new TreeSet<>();
+        for (Class<?> c : PageStore.class.getDeclaredClasses()) {
+            int is = c.getModifiers();
+            if (Modifier.isPublic(is) || Modifier.isProtected(is) || !Modifier.isStatic(is)) {
+                seen.add(c.getSimpleName());
+            }
+        }
         return seen;
     }
 }
